@@ -27,6 +27,7 @@ public final class PromisesTest {
         markKindsThatEndWith();
         markEndsThatAreGone();
         markRefuses();
+        refusalsWithGoneLetters();
         limitOfOperations();
         limitIsForAllPagesTogether();
         tell();
@@ -350,6 +351,22 @@ public final class PromisesTest {
         for (int what = OFF_0; what <= ON_3; what++) {
             CHECKS.due("mark(0, 2, 3, " + what + ")", 4 + what, x.mark(0, 2, 3, what));
         }
+    }
+
+    /** The row is longer than the text here: places are those of the text. */
+    private static void refusalsWithGoneLetters() {
+        CHECKS.about("promises 2 to 4, refusals with gone letters");
+        MarkedPages x = withText("abc");
+        x.erase(0, 1);
+        CHECKS.dueIndex("write(0, 3, d)", () -> x.write(0, 3, 'd'));
+        CHECKS.dueIndex("erase(0, 2)", () -> x.erase(0, 2));
+        CHECKS.dueIndex("mark(0, 0, 3, 1)", () -> x.mark(0, 0, 3, ON_0));
+        CHECKS.dueIndex("mark(0, 2, 3, 5)", () -> x.mark(0, 2, 3, ON_2));
+        dueMade(x, 0, 4);
+        CHECKS.due("mark(0, 1, 2, 5)", 5, x.mark(0, 1, 2, ON_2));
+        CHECKS.due("write(0, 2, d)", 6, x.write(0, 2, 'd'));
+        dueText(x, 0, "acd");
+        dueFormats(x, 0, "040");
     }
 
     private static void limitOfOperations() {
