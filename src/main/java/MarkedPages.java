@@ -159,7 +159,7 @@ public final class MarkedPages {
 
     /** What was made on a page. It never changes, so all pages that know it share it. */
     private abstract static class Operation {
-        /** How many were made before it: where the pages note in their rows what they know of it. */
+        /** How many were made before it; pages note what they know of it under this index. */
         final int number;
         final int time;
         /** The id as one number: there are fewer than four pages, so these numbers go as the ids go. */
@@ -258,7 +258,7 @@ public final class MarkedPages {
         final Marking[] markings;
         int markingsSize;
 
-        /** These three are found by an operation's number. */
+        /** The index of these three is an operation's number. */
         final boolean[] knows;
         final boolean[] gone;
         final int[] places;
