@@ -3,15 +3,6 @@ public final class PromisesTest {
     private static final Checks CHECKS = new Checks();
     private static final int[] NO_PAGES = {-1, 3, 4, Integer.MIN_VALUE, Integer.MAX_VALUE};
 
-    private static final int OFF_0 = 0;
-    private static final int ON_0 = 1;
-    private static final int OFF_1 = 2;
-    private static final int ON_1 = 3;
-    private static final int OFF_2 = 4;
-    private static final int ON_2 = 5;
-    private static final int OFF_3 = 6;
-    private static final int ON_3 = 7;
-
     public static void main(String[] args) {
         newObject();
         newObjectsAreApart();
@@ -45,45 +36,12 @@ public final class PromisesTest {
         CHECKS.end();
     }
 
-    private static MarkedPages withText(String text) {
-        MarkedPages x = new MarkedPages();
-        for (int i = 0; i < text.length(); i++) {
-            x.write(0, i, text.charAt(i));
-        }
-        return x;
-    }
-
-    /** All pages know the same afterwards. */
-    private static void tellAll(MarkedPages x) {
-        x.tell(0, 1, 90);
-        x.tell(1, 2, 90);
-        x.tell(2, 1, 90);
-        x.tell(1, 0, 90);
-    }
-
-    private static String text(MarkedPages x, int page) {
-        StringBuilder text = new StringBuilder();
-        for (int p = 0; p < x.length(page); p++) {
-            text.append(x.at(page, p));
-        }
-        return text.toString();
-    }
-
-    /** A hexadecimal digit for each letter's format. */
-    private static String formats(MarkedPages x, int page) {
-        StringBuilder formats = new StringBuilder();
-        for (int p = 0; p < x.length(page); p++) {
-            formats.append(Integer.toHexString(x.format(page, p)));
-        }
-        return formats.toString();
-    }
-
     private static void dueText(MarkedPages x, int page, String want) {
-        CHECKS.due("the text of page " + page, want, text(x, page));
+        CHECKS.due("the text of page " + page, want, Pages.text(x, page));
     }
 
     private static void dueFormats(MarkedPages x, int page, String want) {
-        CHECKS.due("the formats of page " + page, want, formats(x, page));
+        CHECKS.due("the formats of page " + page, want, Pages.formats(x, page));
     }
 
     /** A call that threw has made nothing. */
@@ -109,7 +67,7 @@ public final class PromisesTest {
     }
 
     private static void newObjectsAreApart() {
-        MarkedPages x = withText("abc");
+        MarkedPages x = Pages.withText("abc");
         MarkedPages y = new MarkedPages();
         CHECKS.due("length of another object", 0, y.length(0));
         y.write(0, 0, 'z');
@@ -125,7 +83,7 @@ public final class PromisesTest {
         x.tell(0, 1, 90);
         CHECKS.due("write after hearing", 3, x.write(1, 0, 'd'));
         x.erase(1, 0);
-        x.mark(1, 0, 1, ON_0);
+        x.mark(1, 0, 1, Pages.ON_0);
         CHECKS.due("write after erasing and marking", 6, x.write(1, 0, 'e'));
         CHECKS.due("write on the page that heard nothing", 3, x.write(0, 0, 'f'));
         x.tell(0, 1, 90);
@@ -134,7 +92,7 @@ public final class PromisesTest {
 
     private static void writePlaces() {
         CHECKS.about("promise 2, places");
-        MarkedPages x = withText("ac");
+        MarkedPages x = Pages.withText("ac");
         x.write(0, 1, 'b');
         x.write(0, 0, '<');
         x.write(0, 4, '>');
@@ -154,7 +112,7 @@ public final class PromisesTest {
         x.write(1, 1, 'l');
         x.write(2, 0, 'x');
         x.write(2, 1, 'y');
-        tellAll(x);
+        Pages.tellAll(x);
         for (int page = 0; page < 3; page++) {
             dueText(x, page, "xyklab");
         }
@@ -165,7 +123,7 @@ public final class PromisesTest {
         x.write(2, 4, '2');
         x.write(2, 0, '3');
         x.write(1, 0, '4');
-        tellAll(x);
+        Pages.tellAll(x);
         for (int page = 0; page < 3; page++) {
             dueText(x, page, "34xykl210!ab");
         }
@@ -173,7 +131,7 @@ public final class PromisesTest {
 
     private static void writeBehindALetterWithGoneOnesBehindIt() {
         CHECKS.about("promise 2, gone letters");
-        MarkedPages x = withText("abcd");
+        MarkedPages x = Pages.withText("abcd");
         x.tell(0, 1, 90);
         x.erase(0, 1);
         x.erase(0, 1);
@@ -189,19 +147,19 @@ public final class PromisesTest {
         x.write(1, 0, 'w');
         dueText(x, 1, "wzxdy");
 
-        MarkedPages y = withText("abc");
+        MarkedPages y = Pages.withText("abc");
         y.tell(0, 1, 90);
         y.erase(0, 1);
         y.write(0, 1, 'x');
         y.write(1, 2, 'y');
-        tellAll(y);
+        Pages.tellAll(y);
         dueText(y, 0, "axyc");
         dueText(y, 1, "axyc");
     }
 
     private static void writeRefuses() {
         CHECKS.about("promise 2, refusals");
-        MarkedPages x = withText("ab");
+        MarkedPages x = Pages.withText("ab");
         for (int page : NO_PAGES) {
             CHECKS.dueArgument("write(" + page + ", 0, c)", () -> x.write(page, 0, 'c'));
             CHECKS.dueArgument("write(" + page + ", -1, c)", () -> x.write(page, -1, 'c'));
@@ -216,7 +174,7 @@ public final class PromisesTest {
 
     private static void erase() {
         CHECKS.about("promise 3");
-        MarkedPages x = withText("abcd");
+        MarkedPages x = Pages.withText("abcd");
         CHECKS.due("erase(0, 1)", 'b', x.erase(0, 1));
         CHECKS.due("erase(0, 2)", 'd', x.erase(0, 2));
         CHECKS.due("erase(0, 0)", 'a', x.erase(0, 0));
@@ -231,12 +189,12 @@ public final class PromisesTest {
     }
 
     private static void eraseByTwoPages() {
-        MarkedPages x = withText("ab");
-        tellAll(x);
+        MarkedPages x = Pages.withText("ab");
+        Pages.tellAll(x);
         CHECKS.due("erase(1, 0)", 'a', x.erase(1, 0));
         CHECKS.due("erase(2, 0)", 'a', x.erase(2, 0));
         CHECKS.due("alike", false, x.alike(1, 2));
-        tellAll(x);
+        Pages.tellAll(x);
         for (int page = 0; page < 3; page++) {
             dueText(x, page, "b");
             dueMade(x, page, 4);
@@ -245,7 +203,7 @@ public final class PromisesTest {
 
     private static void eraseRefuses() {
         CHECKS.about("promise 3, refusals");
-        MarkedPages x = withText("ab");
+        MarkedPages x = Pages.withText("ab");
         for (int page : NO_PAGES) {
             CHECKS.dueArgument("erase(" + page + ", 0)", () -> x.erase(page, 0));
             CHECKS.dueArgument("erase(" + page + ", -1)", () -> x.erase(page, -1));
@@ -262,7 +220,7 @@ public final class PromisesTest {
         CHECKS.about("promise 4, kinds 0 and 1");
         for (int kind = 0; kind < 2; kind++) {
             String has = kind == 0 ? "1" : "2";
-            MarkedPages x = withText("abcd");
+            MarkedPages x = Pages.withText("abcd");
             CHECKS.due("mark", 5, x.mark(0, 1, 3, 2 * kind + 1));
             dueFormats(x, 0, "0" + has + has + "0");
             x.write(0, 3, 'x');
@@ -270,7 +228,7 @@ public final class PromisesTest {
             x.write(0, 1, 'y');
             dueFormats(x, 0, "00" + has + has + has + "0");
 
-            MarkedPages y = withText("ab");
+            MarkedPages y = Pages.withText("ab");
             y.mark(0, 1, 2, 2 * kind + 1);
             y.write(0, 2, 'c');
             dueFormats(y, 0, "0" + has + has);
@@ -283,7 +241,7 @@ public final class PromisesTest {
         CHECKS.about("promise 4, kinds 2 and 3");
         for (int kind = 2; kind < 4; kind++) {
             String has = kind == 2 ? "4" : "8";
-            MarkedPages x = withText("abcd");
+            MarkedPages x = Pages.withText("abcd");
             CHECKS.due("mark", 5, x.mark(0, 1, 3, 2 * kind + 1));
             dueFormats(x, 0, "0" + has + has + "0");
             x.write(0, 3, 'x');
@@ -291,7 +249,7 @@ public final class PromisesTest {
             x.write(0, 2, 'y');
             dueFormats(x, 0, "0" + has + has + has + "00");
 
-            MarkedPages y = withText("ab");
+            MarkedPages y = Pages.withText("ab");
             y.mark(0, 1, 2, 2 * kind + 1);
             y.write(0, 2, 'c');
             dueFormats(y, 0, "0" + has + "0");
@@ -302,9 +260,9 @@ public final class PromisesTest {
 
     private static void markEndsThatAreGone() {
         CHECKS.about("promise 4, gone letters");
-        MarkedPages x = withText("abcdef");
-        x.mark(0, 1, 4, ON_0);
-        x.mark(0, 1, 4, ON_2);
+        MarkedPages x = Pages.withText("abcdef");
+        x.mark(0, 1, 4, Pages.ON_0);
+        x.mark(0, 1, 4, Pages.ON_2);
         dueFormats(x, 0, "055500");
         x.tell(0, 1, 90);
         x.erase(0, 4);
@@ -320,7 +278,7 @@ public final class PromisesTest {
         dueFormats(x, 0, "00550");
         // Another page writes behind d, which is still there, and before e.
         x.write(1, 4, 'z');
-        tellAll(x);
+        Pages.tellAll(x);
         dueText(x, 0, "aycxzf");
         dueFormats(x, 0, "005510");
         dueFormats(x, 2, "005510");
@@ -328,10 +286,10 @@ public final class PromisesTest {
 
     private static void markRefuses() {
         CHECKS.about("promise 4, refusals");
-        MarkedPages x = withText("abc");
+        MarkedPages x = Pages.withText("abc");
         for (int page : NO_PAGES) {
-            CHECKS.dueArgument("mark(" + page + ", 0, 1, 1)", () -> x.mark(page, 0, 1, ON_0));
-            CHECKS.dueArgument("mark(" + page + ", 1, 1, 1)", () -> x.mark(page, 1, 1, ON_0));
+            CHECKS.dueArgument("mark(" + page + ", 0, 1, 1)", () -> x.mark(page, 0, 1, Pages.ON_0));
+            CHECKS.dueArgument("mark(" + page + ", 1, 1, 1)", () -> x.mark(page, 1, 1, Pages.ON_0));
         }
         for (int what : new int[] {-1, 8, Integer.MIN_VALUE, Integer.MAX_VALUE}) {
             CHECKS.dueArgument("mark(0, 0, 1, " + what + ")", () -> x.mark(0, 0, 1, what));
@@ -340,15 +298,15 @@ public final class PromisesTest {
         int[][] stretches = {{-1, 1}, {0, 0}, {2, 1}, {0, 4}, {3, 3}, {3, 4}, {-1, -1}, {0, -1},
             {Integer.MIN_VALUE, 1}, {0, Integer.MAX_VALUE}, {Integer.MAX_VALUE, Integer.MIN_VALUE}};
         for (int[] stretch : stretches) {
-            for (int what = OFF_0; what <= ON_3; what++) {
+            for (int what = Pages.OFF_0; what <= Pages.ON_3; what++) {
                 int kindAndWay = what;
                 CHECKS.dueIndex("mark(0, " + stretch[0] + ", " + stretch[1] + ", " + what + ")",
                         () -> x.mark(0, stretch[0], stretch[1], kindAndWay));
             }
         }
-        CHECKS.dueIndex("mark(1, 0, 1, 1)", () -> x.mark(1, 0, 1, ON_0));
+        CHECKS.dueIndex("mark(1, 0, 1, 1)", () -> x.mark(1, 0, 1, Pages.ON_0));
         dueMade(x, 0, 3);
-        for (int what = OFF_0; what <= ON_3; what++) {
+        for (int what = Pages.OFF_0; what <= Pages.ON_3; what++) {
             CHECKS.due("mark(0, 2, 3, " + what + ")", 4 + what, x.mark(0, 2, 3, what));
         }
     }
@@ -356,14 +314,14 @@ public final class PromisesTest {
     /** The row is longer than the text here: places are those of the text. */
     private static void refusalsWithGoneLetters() {
         CHECKS.about("promises 2 to 4, refusals with gone letters");
-        MarkedPages x = withText("abc");
+        MarkedPages x = Pages.withText("abc");
         x.erase(0, 1);
         CHECKS.dueIndex("write(0, 3, d)", () -> x.write(0, 3, 'd'));
         CHECKS.dueIndex("erase(0, 2)", () -> x.erase(0, 2));
-        CHECKS.dueIndex("mark(0, 0, 3, 1)", () -> x.mark(0, 0, 3, ON_0));
-        CHECKS.dueIndex("mark(0, 2, 3, 5)", () -> x.mark(0, 2, 3, ON_2));
+        CHECKS.dueIndex("mark(0, 0, 3, 1)", () -> x.mark(0, 0, 3, Pages.ON_0));
+        CHECKS.dueIndex("mark(0, 2, 3, 5)", () -> x.mark(0, 2, 3, Pages.ON_2));
         dueMade(x, 0, 4);
-        CHECKS.due("mark(0, 1, 2, 5)", 5, x.mark(0, 1, 2, ON_2));
+        CHECKS.due("mark(0, 1, 2, 5)", 5, x.mark(0, 1, 2, Pages.ON_2));
         CHECKS.due("write(0, 2, d)", 6, x.write(0, 2, 'd'));
         dueText(x, 0, "acd");
         dueFormats(x, 0, "040");
@@ -383,8 +341,8 @@ public final class PromisesTest {
         CHECKS.dueState("erase(0, 89)", () -> x.erase(0, 89));
         CHECKS.dueIndex("erase(0, 90)", () -> x.erase(0, 90));
         CHECKS.dueArgument("erase(-1, 0)", () -> x.erase(-1, 0));
-        CHECKS.dueState("mark(0, 0, 90, 1)", () -> x.mark(0, 0, 90, ON_0));
-        CHECKS.dueIndex("mark(0, 0, 91, 1)", () -> x.mark(0, 0, 91, ON_0));
+        CHECKS.dueState("mark(0, 0, 90, 1)", () -> x.mark(0, 0, 90, Pages.ON_0));
+        CHECKS.dueIndex("mark(0, 0, 91, 1)", () -> x.mark(0, 0, 91, Pages.ON_0));
         CHECKS.dueArgument("mark(0, 0, 1, 8)", () -> x.mark(0, 0, 1, 8));
         dueMade(x, 0, 90);
         CHECKS.due("length", 90, x.length(0));
@@ -401,14 +359,14 @@ public final class PromisesTest {
         }
         x.tell(0, 2, 90);
         for (int i = 0; i < 15; i++) {
-            x.mark(2, 0, 1, ON_3);
+            x.mark(2, 0, 1, Pages.ON_3);
             x.erase(2, 0);
         }
         for (int page = 0; page < 3; page++) {
             int writer = page;
             CHECKS.dueState("write(" + page + ", 0, c)", () -> x.write(writer, 0, 'c'));
         }
-        tellAll(x);
+        Pages.tellAll(x);
         for (int page = 0; page < 3; page++) {
             dueMade(x, page, 90);
             CHECKS.due("count(2)", 60, x.count(page, 2));
@@ -419,7 +377,7 @@ public final class PromisesTest {
 
     private static void tell() {
         CHECKS.about("promise 5");
-        MarkedPages x = withText("abcd");
+        MarkedPages x = Pages.withText("abcd");
         CHECKS.due("tell(0, 1, 0)", 0, x.tell(0, 1, 0));
         dueMade(x, 1, 0);
         CHECKS.due("tell(0, 1, 3)", 3, x.tell(0, 1, 3));
@@ -431,7 +389,7 @@ public final class PromisesTest {
         CHECKS.due("tell(2, 0, 3)", 0, x.tell(2, 0, 3));
         CHECKS.due("tell(0, 2, the greatest int)", 4, x.tell(0, 2, Integer.MAX_VALUE));
         x.erase(2, 0);
-        x.mark(2, 0, 1, ON_1);
+        x.mark(2, 0, 1, Pages.ON_1);
         CHECKS.due("tell(2, 0, 1)", 1, x.tell(2, 0, 1));
         dueText(x, 0, "bcd");
         dueFormats(x, 0, "000");
@@ -474,7 +432,7 @@ public final class PromisesTest {
 
     private static void tellRefuses() {
         CHECKS.about("promise 5, refusals");
-        MarkedPages x = withText("ab");
+        MarkedPages x = Pages.withText("ab");
         for (int page : NO_PAGES) {
             CHECKS.dueArgument("tell(" + page + ", 1, 1)", () -> x.tell(page, 1, 1));
             CHECKS.dueArgument("tell(0, " + page + ", 1)", () -> x.tell(0, page, 1));
@@ -487,11 +445,11 @@ public final class PromisesTest {
 
     private static void length() {
         CHECKS.about("promise 6");
-        MarkedPages x = withText("abc");
+        MarkedPages x = Pages.withText("abc");
         CHECKS.due("length(0)", 3, x.length(0));
         CHECKS.due("length(1)", 0, x.length(1));
         x.erase(0, 0);
-        x.mark(0, 0, 2, ON_0);
+        x.mark(0, 0, 2, Pages.ON_0);
         CHECKS.due("length(0)", 2, x.length(0));
         for (int page : NO_PAGES) {
             CHECKS.dueArgument("length(" + page + ")", () -> x.length(page));
@@ -517,7 +475,7 @@ public final class PromisesTest {
 
     private static void at() {
         CHECKS.about("promise 7");
-        MarkedPages x = withText("abc");
+        MarkedPages x = Pages.withText("abc");
         CHECKS.due("at(0, 0)", 'a', x.at(0, 0));
         CHECKS.due("at(0, 2)", 'c', x.at(0, 2));
         x.erase(0, 1);
@@ -527,19 +485,19 @@ public final class PromisesTest {
 
     private static void format() {
         CHECKS.about("promise 8");
-        MarkedPages x = withText("abcde");
-        x.mark(0, 0, 2, ON_0);
-        x.mark(0, 1, 3, ON_1);
-        x.mark(0, 1, 4, ON_2);
-        x.mark(0, 1, 5, ON_3);
+        MarkedPages x = Pages.withText("abcde");
+        x.mark(0, 0, 2, Pages.ON_0);
+        x.mark(0, 1, 3, Pages.ON_1);
+        x.mark(0, 1, 4, Pages.ON_2);
+        x.mark(0, 1, 5, Pages.ON_3);
         dueFormats(x, 0, "1fec8");
-        x.mark(0, 0, 5, OFF_1);
+        x.mark(0, 0, 5, Pages.OFF_1);
         dueFormats(x, 0, "1dcc8");
-        x.mark(0, 1, 2, OFF_3);
-        x.mark(0, 3, 5, OFF_2);
-        x.mark(0, 0, 1, OFF_0);
+        x.mark(0, 1, 2, Pages.OFF_3);
+        x.mark(0, 3, 5, Pages.OFF_2);
+        x.mark(0, 0, 1, Pages.OFF_0);
         dueFormats(x, 0, "05c88");
-        x.mark(0, 0, 5, ON_0);
+        x.mark(0, 0, 5, Pages.ON_0);
         dueFormats(x, 0, "15d99");
         x.erase(0, 1);
         dueFormats(x, 0, "1d99");
@@ -548,11 +506,11 @@ public final class PromisesTest {
 
     private static void formatOfTheGreatestId() {
         CHECKS.about("promise 8, the greatest id");
-        MarkedPages x = withText("abc");
-        tellAll(x);
-        x.mark(0, 0, 3, ON_2);
-        x.mark(2, 1, 3, OFF_2);
-        x.mark(1, 2, 3, ON_2);
+        MarkedPages x = Pages.withText("abc");
+        Pages.tellAll(x);
+        x.mark(0, 0, 3, Pages.ON_2);
+        x.mark(2, 1, 3, Pages.OFF_2);
+        x.mark(1, 2, 3, Pages.ON_2);
         // The same time on all pages: page 2 before page 1 before page 0, however they are told.
         x.tell(0, 1, 90);
         dueFormats(x, 1, "444");
@@ -564,12 +522,12 @@ public final class PromisesTest {
         dueFormats(x, 0, "400");
 
         // A greater time comes before a greater page.
-        MarkedPages y = withText("ab");
-        tellAll(y);
-        y.mark(0, 0, 1, ON_0);
-        y.mark(0, 0, 1, ON_0);
-        y.mark(2, 0, 2, OFF_0);
-        tellAll(y);
+        MarkedPages y = Pages.withText("ab");
+        Pages.tellAll(y);
+        y.mark(0, 0, 1, Pages.ON_0);
+        y.mark(0, 0, 1, Pages.ON_0);
+        y.mark(2, 0, 2, Pages.OFF_0);
+        Pages.tellAll(y);
         for (int page = 0; page < 3; page++) {
             dueFormats(y, page, "10");
         }
@@ -594,19 +552,19 @@ public final class PromisesTest {
 
     private static void runs() {
         CHECKS.about("promise 10");
-        MarkedPages x = withText("abcdef");
+        MarkedPages x = Pages.withText("abcdef");
         CHECKS.due("runs(0)", 1, x.runs(0));
         CHECKS.due("runs(1)", 0, x.runs(1));
-        x.mark(0, 2, 4, ON_2);
+        x.mark(0, 2, 4, Pages.ON_2);
         CHECKS.due("runs(0)", 3, x.runs(0));
-        x.mark(0, 3, 6, ON_0);
+        x.mark(0, 3, 6, Pages.ON_0);
         CHECKS.due("runs(0)", 4, x.runs(0));
         x.erase(0, 2);
         CHECKS.due("runs(0)", 3, x.runs(0));
         // Two stretches of the same format become one run when what stood between them is gone.
         x.erase(0, 2);
         CHECKS.due("runs(0)", 2, x.runs(0));
-        x.mark(0, 0, 4, ON_0);
+        x.mark(0, 0, 4, Pages.ON_0);
         CHECKS.due("runs(0)", 1, x.runs(0));
         for (int page : NO_PAGES) {
             CHECKS.dueArgument("runs(" + page + ")", () -> x.runs(page));
@@ -615,9 +573,9 @@ public final class PromisesTest {
 
     private static void run() {
         CHECKS.about("promise 11");
-        MarkedPages x = withText("abcdef");
-        x.mark(0, 1, 3, ON_2);
-        x.mark(0, 2, 3, ON_1);
+        MarkedPages x = Pages.withText("abcdef");
+        x.mark(0, 1, 3, Pages.ON_2);
+        x.mark(0, 2, 3, Pages.ON_1);
         int[][] runs = {{0, 1, 0}, {1, 1, 4}, {2, 1, 6}, {3, 3, 0}};
         for (int k = 0; k < runs.length; k++) {
             for (int what = 0; what < 3; what++) {
@@ -643,10 +601,10 @@ public final class PromisesTest {
 
     private static void count() {
         CHECKS.about("promise 12");
-        MarkedPages x = withText("abc");
+        MarkedPages x = Pages.withText("abc");
         x.write(1, 0, 'x');
-        x.mark(1, 0, 1, ON_0);
-        x.mark(1, 0, 1, OFF_0);
+        x.mark(1, 0, 1, Pages.ON_0);
+        x.mark(1, 0, 1, Pages.OFF_0);
         x.erase(0, 0);
         x.tell(0, 1, 3);
         int[][] counts = {{4, 4, 3, 0}, {6, 3, 4, 2}, {0, 0, 0, 0}};
@@ -665,7 +623,7 @@ public final class PromisesTest {
 
     private static void alike() {
         CHECKS.about("promise 13");
-        MarkedPages x = withText("a");
+        MarkedPages x = Pages.withText("a");
         CHECKS.due("alike(0, 0)", true, x.alike(0, 0));
         CHECKS.due("alike(0, 1)", false, x.alike(0, 1));
         CHECKS.due("alike(1, 0)", false, x.alike(1, 0));
@@ -679,7 +637,7 @@ public final class PromisesTest {
         x.tell(1, 0, 1);
         // Known in another order.
         CHECKS.due("alike(0, 1)", true, x.alike(0, 1));
-        x.mark(0, 0, 1, OFF_0);
+        x.mark(0, 0, 1, Pages.OFF_0);
         CHECKS.due("alike(0, 1) after a marking", false, x.alike(0, 1));
         for (int page : NO_PAGES) {
             CHECKS.dueArgument("alike(" + page + ", 0)", () -> x.alike(page, 0));
